@@ -1,6 +1,6 @@
 /** Promises 1 to 18 over many made class files: the program's answers against those of Model. The seed is fixed. */
 public final class ModelTest {
-    private static final int OBJECTS = 3000;
+    private static final int OBJECTS = 2000;
     private static final int CLASSES = 6;
 
     private static final Check check = new Check("ModelTest");
@@ -75,10 +75,10 @@ public final class ModelTest {
             x.unchain();
             y.unchain();
         }
-        for (int t = made.below(4); t > 0; t--) {
+        for (int t = made.below(2) == 0 ? 3 : made.below(4); t > 0; t--) {
             boolean cover = made.below(2) == 0;
-            int letter = made.below(3) == 0 ? 'a' + made.below(26) : made.below(20) == 0 ? made.below(130) : 0;
-            int args = made.below(2) == 0 ? made.below(6) - 2 : -1;
+            int letter = made.below(4) == 0 ? 'a' + made.below(26) : made.below(20) == 0 ? made.below(130) : 0;
+            int args = made.below(3) == 0 ? made.below(6) - 2 : -1;
             check.is("transformer", x.transformer(cover, letter, args), y.transformer(cover, letter, args));
         }
     }
