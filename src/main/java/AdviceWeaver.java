@@ -289,11 +289,6 @@ public final class AdviceWeaver {
             return op != GOTO && op != WIDE_GOTO && op != RETURN && op != THROW && op != RETHROW;
         }
 
-        /** An instruction behind such a one is a LEADER. */
-        static boolean endsStretch(int op) {
-            return isBranch(op) || !goesOn(op);
-        }
-
         static boolean isWovenOnly(int op) {
             return op == MARK || op == PROBE || op == RETHROW;
         }
@@ -454,7 +449,8 @@ public final class AdviceWeaver {
         }
 
         boolean covers(int h, int place) {
-            return part(h, START) <= place && place < part(h, END);
+            int row = h * HANDLER_PARTS;
+            return parts[row + START] <= place && place < parts[row + END];
         }
 
         /** Where what is thrown at a place goes on, or NONE. */
@@ -710,10 +706,11 @@ public final class AdviceWeaver {
                     continue;
                 }
                 int op = old.byteAt(place);
-                if (Op.isBranch(op)) {
+                boolean branches = Op.isBranch(op);
+                if (branches) {
                     addLeader(place + old.wayAt(place));
                 }
-                if (Op.endsStretch(op)) {
+                if (branches || !Op.goesOn(op)) {
                     addLeader(place + Op.size(op));
                 }
             }
@@ -916,7 +913,6 @@ public final class AdviceWeaver {
 
         int execute(Body[] bodies, int m, int a, int b, int fuel) {
             this.fuel = fuel;
-            value = 0;
             used = 0;
             marks = 0;
             Arrays.fill(probes, 0);

@@ -2,7 +2,7 @@ import java.util.ArrayList;
 import java.util.List;
 import java.util.Random;
 
-/** Makes class files, most of them SOUND: it keeps count of the depth and lets branches lead where the depth is right. */
+/** Makes class files, many of them SOUND: it counts the depth and lets branches lead where the depth is right. */
 final class Generator {
     private final Random random;
     private int methods;

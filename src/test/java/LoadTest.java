@@ -211,6 +211,8 @@ public final class LoadTest {
         one("set on one of two ways", false, 1, 2, 1, 2, 0, 11, 6, 1, 1, 3, 1, 2, 1, 14);
         one("set on two of two ways", true, 1, 2, 1, 2, 0, 11, 8, 1, 1, 3, 1, 10, 6, 1, 2, 3, 1, 2, 1, 14);
         one("not set on a way that comes back later", false, 1, 2, 1, 2, 0, 11, 9, 1, 1, 3, 1, 2, 1, 14, 10, -3);
+        one("not set on a way that comes back twice", false, 1, 2, 1,
+            2, 0, 11, 15, 1, 1, 3, 1, 2, 0, 11, 5, 2, 1, 14, 10, -3, 10, -2);
         one("set on a way that comes back later", true, 1, 2, 1, 1, 1, 3, 1, 2, 0, 11, 5, 2, 1, 14, 10, -3);
     }
 

@@ -61,8 +61,8 @@ public final class LookTest {
     }
 
     private static void asWoven(AdviceWeaver x) {
-        check.code("woven f", x, true, 0, 30, 3, 31, 0, 2, 0, 1, 253, 8, 4, 7, 10, 5, 31, 1, 15, 31, 2, 30, 4, 14, 31, 3,
-            30, 4, 14, 30, 5, 32);
+        check.code("woven f", x, true, 0, 30, 3, 31, 0, 2, 0, 1, 253, 8, 4, 7, 10, 5, 31, 1, 15, 31, 2, 30, 4, 14,
+            31, 3, 30, 4, 14, 30, 5, 32);
         shapes("woven f", x, true, 0, 29, 2, 18, 3);
         check.handler("woven f, its own", x, true, 0, 0, 6, 26, 21, 1);
         check.handler("woven f, the TRACE's", x, true, 0, 1, 0, 26, 26, 0);
@@ -106,5 +106,11 @@ public final class LookTest {
         x.weave();
         check.is("what is thrown counts, in the TRACE of a loop", x.shape(true, 0, 3), 1);
         check.is("a full stack, woven", x.shape(true, 1, 3), 8);
+        ClassBytes other = new ClassBytes().method('a', 0, 0, 1, 10, 0).method('b', 0, 0, 8, 1, 1, 14);
+        check.is("another class", other.loadInto(x), 2);
+        check.is("the class before does not count", x.shape(false, 1, 3), 1);
+        x.unchain();
+        x.weave();
+        check.is("nor what was woven before", x.shape(true, 0, 3), 0);
     }
 }

@@ -10,7 +10,7 @@ import java.util.Set;
 
 /**
  * The document once more, as plainly as the Java library lets one write it: states are gone through one by one, code is
- * a list of instructions that point at one another, a CALL is a call. ModelTest compares its answers with the program's.
+ * a list of instructions that point at one another, a CALL is a call. ModelTest asks it and the program the same.
  */
 final class Model {
     static final int NONE = -1;

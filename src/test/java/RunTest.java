@@ -13,6 +13,7 @@ public final class RunTest {
         localsAndStack();
         branches();
         calls();
+        leftOnTheStack();
         handlers();
         thrownThroughCalls();
         fuel();
@@ -90,6 +91,24 @@ public final class RunTest {
         check.is("takes a alone", x.value(), 107);
         check.is("a method without arguments", x.run(false, 3, 7, 55, 100), RETURNED);
         check.is("takes none", x.value(), 100);
+    }
+
+    /** What a method leaves on its stack is nobody's: neither the next CALL's nor the handler's. */
+    private static void leftOnTheStack() {
+        AdviceWeaver x = new AdviceWeaver();
+        new ClassBytes()
+            .method('f', 1, 2, 2, 1, 0, 3, 1, 2, 0, 11, 14, 2, 1, 13, 1, 4, 3, 1, 16, 0, -1, 10, -14, 2, 1, 14)
+            .method('g', 0, 0, 4, 1, 1, 1, 2, 1, 3, 1, 4, 14).loadInto(x);
+        for (int again = 0; again < 3; again++) {
+            check.is("a loop of CALLs", x.run(false, 0, 20, 0, 1000), RETURNED);
+            check.is("each gave 4", x.value(), 80);
+        }
+        new ClassBytes().method('f', 1, 2, 4, 1, 0, 3, 1, 10, 10, 2, 1, 4, 3, 1, 16, 0, -1, 2, 0, 11, 9,
+            1, 7, 1, 8, 1, 9, 15, 2, 1, 14).handler(18, 25, 6, 9).loadInto(x);
+        for (int again = 0; again < 3; again++) {
+            check.is("a loop of THROWs", x.run(false, 0, 20, 0, 1000), RETURNED);
+            check.is("each gave 9", x.value(), 180);
+        }
     }
 
     private static AdviceWeaver handled() {

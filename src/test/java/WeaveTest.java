@@ -187,12 +187,16 @@ public final class WeaveTest {
     }
 
     /** PUSH 5, NOTHINGs, RETURNs: a TRACE adds five bytes and two for each RETURN. */
-    private static ClassBytes filled(int nothings, int returns) {
+    private static int[] filledCode(int nothings, int returns) {
         int[] code = new int[2 + nothings + returns];
         Arrays.fill(code, 2 + nothings, code.length, 14);
         code[0] = 1;
         code[1] = 5;
-        return new ClassBytes().method('a', 0, 0, 1, code);
+        return code;
+    }
+
+    private static ClassBytes filled(int nothings, int returns) {
+        return new ClassBytes().method('a', 0, 0, 1, filledCode(nothings, returns));
     }
 
     private static ClassBytes returns(int count) {
@@ -246,6 +250,10 @@ public final class WeaveTest {
             check.is("no transformer " + t, x.failed(0, t), false);
         }
         check.is("rows do not run into one another", x.failed(-1, 3), false);
+        ClassBytes file = new ClassBytes().method('b', 0, 0, 1, 1, 5, 14).method('a', 0, 0, 1, filledCode(0, 38));
+        AdviceWeaver second = weave(file, 1, TRACE);
+        check.is("the second method failed", second.failed(1, 0), true);
+        check.is("that is no transformer 3 of the first", second.failed(0, 3), false);
         x.unchain();
         x.transformer(true, 'b', -1);
         check.is("still, before the next weaving", x.failed(0, 0), true);
