@@ -48,11 +48,21 @@ final class ClassBytes {
     }
 
     static int loadInto(AdviceWeaver x, int... bytes) {
-        x.clear();
-        for (int b : bytes) {
-            x.put(b, 1);
-        }
+        putInto(x, bytes);
         return x.load();
+    }
+
+    /** By words, for an object is used for 512 calls at most. */
+    static void putInto(AdviceWeaver x, int... bytes) {
+        x.clear();
+        for (int at = 0; at < bytes.length; at += 4) {
+            int n = Math.min(4, bytes.length - at);
+            int word = 0;
+            for (int i = 0; i < n; i++) {
+                word = word << 8 | bytes[at + i];
+            }
+            x.put(word, n);
+        }
     }
 
     /** What a new object answers. */

@@ -11,11 +11,16 @@ public final class RoomTest {
     private static int kept = 0;
 
     public static void main(String[] args) {
-        AdviceWeaver x = new AdviceWeaver();
-        everyCall(x);
+        AdviceWeaver[] objects = new AdviceWeaver[25];
+        for (int i = 0; i < objects.length; i++) {
+            objects[i] = new AdviceWeaver();
+        }
+        everyCall(objects[0]);
         long before = made();
-        for (int again = 0; again < 200; again++) {
-            everyCall(x);
+        for (AdviceWeaver x : objects) {
+            for (int again = 0; again < 6; again++) {
+                everyCall(x);
+            }
         }
         check.is("no call makes an object", made() - before < 2000, true);
         before = made();
