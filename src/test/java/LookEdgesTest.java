@@ -17,6 +17,7 @@ public final class LookEdgesTest {
         handlersFromFirstToLast();
         placesWithoutInstruction();
         notReached();
+        reachedBackwards();
         greatestDepthOfStatesAlone();
         refusedLoadShowsTheClassBefore();
         check.finish();
@@ -209,6 +210,30 @@ public final class LookEdgesTest {
             1, NONE, 1);
         x = loaded(new ClassBytes().method('a', 0, 0, 2, 1, 5, 14, 0, 1, 5, 14, 15).handler(2, 7, 7, 0));
         depths("reached by a handler", x, false, 0, NONE, 1, NONE, NONE, NONE, NONE, 1);
+    }
+
+    /** A wide GOTO to the last of GOTOs that each lead to the one before it. */
+    private static void reachedBackwards() {
+        int[] code = new int[39];
+        code[0] = 20;
+        code[2] = 37;
+        int[] due = new int[39];
+        java.util.Arrays.fill(due, NONE);
+        due[0] = 0;
+        for (int at = 3; at < 39; at += 2) {
+            code[at] = 10;
+            code[at + 1] = at == 3 ? 0 : -2;
+            due[at] = 0;
+        }
+        AdviceWeaver x = woven(new ClassBytes().method('a', 0, 0, 1, code), false);
+        depths("loaded", x, false, due);
+        int[] wovenDue = new int[44];
+        java.util.Arrays.fill(wovenDue, NONE);
+        System.arraycopy(due, 0, wovenDue, 2, 39);
+        wovenDue[0] = 0;
+        wovenDue[41] = 1;
+        wovenDue[43] = 1;
+        depths("woven", x, true, wovenDue);
     }
 
     private static void greatestDepthOfStatesAlone() {

@@ -26,6 +26,8 @@ public final class RunEdgesTest {
         deepIsNotCaught();
         deepOrOut();
         argumentsThatItHas();
+        fullStack();
+        whatIsBelowStays();
         check.finish();
     }
 
@@ -290,6 +292,76 @@ public final class RunEdgesTest {
         for (int m = 0; m < 4; m++) {
             check.is("method " + m, x.run(false, m, MIN, MAX, 100), RETURNED);
             check.is("value", x.value(), due[m]);
+        }
+    }
+
+    /** PUSH 1, 2, 4, .. or what is there already and 2, 4, ..; then ADD them all. */
+    private static int[] sumOfEight(boolean oneIsThere) {
+        int[] code = new int[(oneIsThere ? 14 : 16) + 8];
+        int at = 0;
+        for (int i = oneIsThere ? 1 : 0; i < 8; i++) {
+            code[at] = 1;
+            code[at + 1] = i == 7 ? -128 : 1 << i;
+            at += 2;
+        }
+        java.util.Arrays.fill(code, at, at + 7, 4);
+        code[at + 7] = 14;
+        return code;
+    }
+
+    private static void fullStack() {
+        AdviceWeaver x = woven(new ClassBytes().method('m', 0, 0, 8, sumOfEight(false)), false, true);
+        runs("eight numbers", x, 0, 0, RETURNED, 127 - 128);
+        check.is("eight numbers, woven", x.run(true, 0, 0, 0, 100), RETURNED);
+        check.is("value", x.value(), -1);
+        int[] sum = sumOfEight(true);
+        int[] code = new int[8 + sum.length];
+        for (int i = 0; i < 3; i++) {
+            code[2 * i] = 1;
+            code[2 * i + 1] = 1;
+        }
+        code[6] = 15;
+        System.arraycopy(sum, 0, code, 7, sum.length);
+        code = java.util.Arrays.copyOf(code, 7 + sum.length);
+        x = woven(new ClassBytes().method('m', 0, 0, 8, code).handler(6, 7, 7, 1), true);
+        runs("seven and what was thrown with three", x, 0, 0, RETURNED, -1);
+        check.is("the same, woven", x.run(true, 0, 0, 0, 100), RETURNED);
+        check.is("value", x.value(), -1);
+        x = loaded(new ClassBytes().method('m', 0, 0, 8, 1, 1, 1, 2, 1, 3, 1, 4, 1, 5, 1, 6, 1, 7, 13, 1, 4, 14)
+            .method('n', 0, 0, 8, sumOfEight(false)));
+        runs("eight numbers in a method called with seven", x, 0, 0, RETURNED, 6);
+    }
+
+    /** 40 and 2, then numbers for the instruction; what it leaves is dropped, and 40 - 2 is returned. */
+    private static void whatIsBelowStays() {
+        int[][] table = {{0, 0, 0}, {1, 0, 1, 9}, {2, 0, 1, 0}, {3, 1, 0, 1}, {4, 2, 1}, {5, 2, 1}, {6, 2, 1}, {7, 2, 1},
+            {8, 1, 2}, {9, 1, 0}, {10, 0, 0, 2}, {11, 1, 0, 2}, {12, 1, 0, 2}, {13, 0, 1, 1}, {13, 1, 1, 2}, {13, 2, 1, 3},
+            {16, 0, 0, 0, 5}, {20, 0, 0, 0, 3}, {21, 1, 0, 0, 3}, {22, 1, 0, 0, 3}};
+        for (int[] row : table) {
+            for (int number : new int[] {-3, 0, 3}) {
+                int[] code = new int[40];
+                int at = 0;
+                for (int i = 0; i < 2 + row[1]; i++) {
+                    code[at] = 1;
+                    code[at + 1] = i == 0 ? 40 : i == 1 ? 2 : i == 2 ? number : 5;
+                    at += 2;
+                }
+                code[at] = row[0];
+                at++;
+                for (int i = 3; i < row.length; i++) {
+                    code[at] = row[i];
+                    at++;
+                }
+                for (int i = 0; i < row[2]; i++) {
+                    code[at] = 9;
+                    at++;
+                }
+                code[at] = 5;
+                code[at + 1] = 14;
+                AdviceWeaver x = loaded(new ClassBytes().method('m', 1, 2, 8, java.util.Arrays.copyOf(code, at + 2))
+                    .method('n', 0, 0, 1, 1, 9, 14).method('o', 1, 1, 1, 1, 9, 14).method('p', 2, 2, 1, 1, 9, 14));
+                runs("below " + row[0], x, 1, 0, RETURNED, 38);
+            }
         }
     }
 }
