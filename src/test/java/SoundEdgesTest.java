@@ -22,6 +22,7 @@ public final class SoundEdgesTest {
         handlerHasTheSetAsItIs();
         handlersOfAnyKind();
         onlyWhatCanBeReached();
+        farthestState();
         unsoundBeforeIllFormed();
         check.finish();
     }
@@ -293,6 +294,21 @@ public final class SoundEdgesTest {
         handled("a handler of what is reached", false, 0, 2, 2, 10, 0, 4, 10, 0);
         one("both ways of an IF are reached, whatever the number", false, 0, 1, 1, 1, 0, 11, 3, 4, 10, 0);
         one("and the other way too", false, 0, 1, 1, 1, 1, 11, 4, 10, 0, 4, 10, 0);
+    }
+
+    /** A wide GOTO to the last of GOTOs that each lead to the one before it, the first of them to what stands at 3. */
+    private static void farthestState() {
+        for (int last : new int[] {0, 4, 8, 9, 14, 15}) {
+            int[] code = new int[40];
+            code[0] = 20;
+            code[2] = 38;
+            code[3] = last;
+            for (int at = 4; at < 40; at += 2) {
+                code[at] = 10;
+                code[at + 1] = at == 4 ? -1 : -2;
+            }
+            one("what is reached last is " + last, last == 0, 0, 0, 1, code);
+        }
     }
 
     private static void unsoundBeforeIllFormed() {

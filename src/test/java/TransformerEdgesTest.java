@@ -9,6 +9,7 @@ public final class TransformerEdgesTest {
 
     public static void main(String[] args) {
         bytesOfTraces();
+        bytesAreFullAlready();
         bytesOfCovers();
         bytesOfWideBranches();
         handlersOfTraces();
@@ -76,6 +77,21 @@ public final class TransformerEdgesTest {
         x = weave("31 + 45 + 45", filled(9, 20), 1, TRACE, TRACE);
         check.is("121 bytes fail", x.failed(0, 1), true);
         check.is("and stay 76", x.shape(true, 0, 0), 76);
+    }
+
+    private static void bytesAreFullAlready() {
+        for (int third = TRACE; third <= COVER; third++) {
+            AdviceWeaver x = weave("a third on 120 bytes", filled(8, 20), 2, TRACE, TRACE, third);
+            check.is("fails", x.failed(0, 2), true);
+            check.is("and they stay", x.shape(true, 0, 0), 120);
+            check.handler("with their last handler", x, true, 0, 1, 0, 117, 117, 0);
+            x = weave("a third on 119 bytes", filled(7, 20), 2, TRACE, TRACE, third);
+            check.is("fails", x.failed(0, 2), true);
+            check.is("and they stay", x.shape(true, 0, 0), 119);
+            x = weave("a third on 120 bytes of COVERs", filled(13, 21), 2, COVER, COVER, third);
+            check.is("fails", x.failed(0, 2), true);
+            check.is("and they stay", x.shape(true, 0, 0), 120);
+        }
     }
 
     private static void bytesOfCovers() {
