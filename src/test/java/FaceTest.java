@@ -7,7 +7,7 @@ import java.util.HashSet;
 import java.util.List;
 import java.util.Set;
 
-/** The public face and rule 1 of LANGUAGE.md; promise 1; the example of README.md. */
+/** The public face and rule 1 of LANGUAGE.md; promise 1. */
 public final class FaceTest {
     private static final Check check = new Check("FaceTest");
     private static final List<String> FACE = List.of(
@@ -19,7 +19,6 @@ public final class FaceTest {
     public static void main(String[] args) {
         membersAreThoseOfTheDocument();
         newObjectIsEmpty();
-        exampleOfReadme();
         check.finish();
     }
 
@@ -71,20 +70,5 @@ public final class FaceTest {
         check.is("used without a run", x.used(), 0);
         check.marks("without a run", x);
         check.is("the chain is empty", x.transformer(true, 0, -1), 0);
-    }
-
-    private static void exampleOfReadme() {
-        AdviceWeaver x = new AdviceWeaver();
-        x.put(0xCA016600, 4);
-        x.put(0x00010301, 4);
-        x.put(0x070E00, 3);
-        check.is("README load", x.load(), 1);
-        check.is("README TRACE", x.transformer(false, 0, -1), 0);
-        check.is("README COVER", x.transformer(true, 'f', 0), 1);
-        check.is("README weave", x.weave(), 2);
-        check.is("README run", x.run(true, 0, 0, 0, 100), 0);
-        check.is("README value", x.value(), 7);
-        check.is("README marks", x.marks(), 2);
-        check.is("README probe", x.probe(0, 0), 1);
     }
 }

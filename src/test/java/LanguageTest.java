@@ -5,7 +5,9 @@ import java.lang.reflect.Modifier;
 import java.nio.file.Files;
 import java.nio.file.Path;
 import java.util.ArrayList;
+import java.util.HashMap;
 import java.util.List;
+import java.util.Map;
 import java.util.Set;
 import java.util.regex.Matcher;
 import java.util.regex.Pattern;
@@ -24,6 +26,8 @@ public final class LanguageTest {
         onlyTheLibraryThatIsListed(text);
         nothingThatIsLeftOut(text);
         shortMethodsWithFewParameters(text);
+        objectsAreMadeInConstructorsAlone(text);
+        callsGoFewDeepAndNoneComesBack(text);
         fewClassesWithFewFields();
         staticFieldsAreFinal();
         privateNamesAreNotThoseOfTheFace();
@@ -59,19 +63,60 @@ public final class LanguageTest {
         none(text, "\\b(synchronized|assert|finally|throw|throws|try|catch|volatile|native|protected|super|extends)\\b");
         none(text, "->|::|\\b(double|float|String|Object|Thread|Random)\\b");
         none(text, "(?m)^ +static \\{");
+        none(text, "while \\(true\\)|for \\(;;");
     }
 
     private static void shortMethodsWithFewParameters(String text) {
         Matcher matcher = METHOD.matcher(text);
-        int methods = 0;
         while (matcher.find()) {
-            methods++;
-            int end = text.indexOf("\n" + matcher.group(1) + "}", matcher.end());
-            long lines = text.substring(matcher.start(), end).lines().count();
-            check.is(matcher.group(2) + " has at most 60 lines", lines <= 60, true);
-            check.is(matcher.group(2) + " has at most 7 parameters", matcher.group(3).split(",").length <= 7, true);
+            String parameters = matcher.group(3);
+            check.is(matcher.group(2) + " has at most 7 parameters", parameters.split(",").length <= 7, true);
         }
-        check.is("the methods were seen", methods > 50, true);
+        bodies(text).forEach((name, body) ->
+            check.is(name + " has at most 60 lines", body.lines().count() < 60, true));
+    }
+
+    /** By name, which no two methods of the program share; constructors are not among them. */
+    private static Map<String, String> bodies(String text) {
+        Map<String, String> bodies = new HashMap<>();
+        Matcher matcher = METHOD.matcher(text);
+        while (matcher.find()) {
+            int end = text.indexOf("\n" + matcher.group(1) + "}", matcher.end());
+            String before = bodies.put(matcher.group(2), text.substring(matcher.end(), end));
+            check.is("another method is named " + matcher.group(2), before == null, true);
+        }
+        bodies.remove("AdviceWeaver");
+        check.is("the methods were seen", bodies.size() > 50, true);
+        return bodies;
+    }
+
+    private static void objectsAreMadeInConstructorsAlone(String text) {
+        bodies(text).values().forEach(body -> none(body, "\\bnew \\w+"));
+    }
+
+    private static void callsGoFewDeepAndNoneComesBack(String text) {
+        Map<String, String> bodies = bodies(text);
+        int deepest = 0;
+        for (String name : bodies.keySet()) {
+            deepest = Math.max(deepest, deep(name, bodies, List.of()));
+        }
+        check.is("calls go at most eight deep: " + deepest, deepest > 3 && deepest <= 8, true);
+    }
+
+    private static int deep(String name, Map<String, String> bodies, List<String> under) {
+        if (under.contains(name)) {
+            check.is("recursion of " + name, true, false);
+            return 0;
+        }
+        List<String> here = new ArrayList<>(under);
+        here.add(name);
+        int deepest = 0;
+        for (String called : found(bodies.get(name), "\\b\\w+(?=\\()")) {
+            if (bodies.containsKey(called)) {
+                deepest = Math.max(deepest, deep(called, bodies, here));
+            }
+        }
+        return deepest + 1;
     }
 
     private static List<Class<?>> classes() {
